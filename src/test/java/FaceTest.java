@@ -24,6 +24,7 @@ public final class FaceTest {
         "int inputs()");
 
     public static void main(String[] args) {
+        Checks.sentence("the public face");
         Class<GateBench> face = GateBench.class;
         Checks.due("modifiers of the class", Modifier.PUBLIC | Modifier.FINAL, face::getModifiers);
         Set<String> told = new TreeSet<>();

@@ -16,6 +16,7 @@ public final class PlainBenchTest {
     }
 
     public static void main(String[] args) {
+        Checks.sentence("all promises, as PlainBench has them");
         for (int run = 1; run <= 400; run++) {
             // Few inputs let the rules fit often; many let the rows grow far.
             int most = new int[] {2, 3, 5, 60}[run % 4];
