@@ -7,10 +7,10 @@ public final class PlainBenchTest {
     private final PlainBench plain = new PlainBench();
     private final int most;
     private final int readers;
-    private long state;
+    private final Picker picker;
 
     private PlainBenchTest(long seed, int most, int readers) {
-        this.state = seed;
+        this.picker = new Picker(seed);
         this.most = most;
         this.readers = readers;
     }
@@ -30,29 +30,23 @@ public final class PlainBenchTest {
         Checks.end();
     }
 
-    /** A number below the bound, the same ones for the same seed. */
-    private int pick(int bound) {
-        state = state * 6364136223846793005L + 1442695040888963407L;
-        return (int) ((state >>> 33) % bound);
-    }
-
     private int literal() {
-        if (pick(60) == 0) {
-            return pick(2) == 0 ? WILD[pick(WILD.length)] : 2 * plain.nodes() + pick(2);
+        if (picker.pick(60) == 0) {
+            return picker.pick(2) == 0 ? WILD[picker.pick(WILD.length)] : 2 * plain.nodes() + picker.pick(2);
         }
         int all = 2 * plain.nodes();
-        return pick(3) == 0 ? Math.max(0, all - 1 - pick(12)) : pick(all);
+        return picker.pick(3) == 0 ? Math.max(0, all - 1 - picker.pick(12)) : picker.pick(all);
     }
 
     private int node() {
-        if (pick(30) == 0) {
-            return pick(2) == 0 ? WILD[pick(WILD.length)] : plain.nodes();
+        if (picker.pick(30) == 0) {
+            return picker.pick(2) == 0 ? WILD[picker.pick(WILD.length)] : plain.nodes();
         }
-        return pick(2) == 0 ? pick(Math.min(plain.nodes(), most + 1)) : pick(plain.nodes());
+        return picker.pick(2) == 0 ? picker.pick(Math.min(plain.nodes(), most + 1)) : picker.pick(plain.nodes());
     }
 
     private int kind(int count) {
-        return pick(40) == 0 ? (pick(2) == 0 ? -1 : count) : pick(count);
+        return picker.pick(40) == 0 ? (picker.pick(2) == 0 ? -1 : count) : picker.pick(count);
     }
 
     private void same(String call, Checks.Call ours, Checks.Call theirs) {
@@ -63,7 +57,7 @@ public final class PlainBenchTest {
         int a = literal();
         int b = literal();
         int c = literal();
-        int what = pick(10 + readers);
+        int what = picker.pick(10 + readers);
         if (plain.inputs() < 2 || what == 0 && plain.inputs() < most) {
             same(at + ": input()", bench::input, plain::input);
         } else if (what < 4) {
@@ -77,14 +71,14 @@ public final class PlainBenchTest {
             String call = at + ": three(" + kind + ", " + a + ", " + b + ", " + c + ")";
             same(call, () -> bench.three(kind, a, b, c), () -> plain.three(kind, a, b, c));
         } else {
-            look(at, pick(8), a, node());
+            look(at, picker.pick(8), a, node());
         }
     }
 
     private void look(String at, int what, int a, int node) {
         switch (what) {
             case 0, 1 -> {
-                boolean on = pick(2) == 0;
+                boolean on = picker.pick(2) == 0;
                 same(at + ": set(" + node + ", " + on + ")", () -> bench.set(node, on), () -> plain.set(node, on));
             }
             case 2 -> same(at + ": value(" + a + ")", () -> bench.value(a), () -> plain.value(a));
@@ -105,10 +99,10 @@ public final class PlainBenchTest {
     private void compareAll(String at) {
         same(at + ": nodes()", bench::nodes, plain::nodes);
         same(at + ": inputs()", bench::inputs, plain::inputs);
-        for (int n = 0; n < plain.nodes(); n += 1 + pick(20)) {
+        for (int n = 0; n < plain.nodes(); n += 1 + picker.pick(20)) {
             int node = n;
             for (int what = 0; what < 8; what++) {
-                look(at, what, 2 * node + pick(2), node);
+                look(at, what, 2 * node + picker.pick(2), node);
             }
         }
     }
